@@ -185,6 +185,13 @@ public final class PromiseTests {
         due("tellAll() in one of several parts", x.tellAll(), 1);
         dueGrid("tellAll()", x, "1.2/.3./4.3");
 
+        x = gridOf(7, ".3/46");
+        due("tellAll() of the first place", x.tellAll(), 1);
+        dueGrid("tellAll()", x, "23/46");
+        x = gridOf(7, "23/4.");
+        due("tellAll() of the last place", x.tellAll(), 1);
+        dueGrid("tellAll()", x, "23/46");
+
         x = gridOf(7, "23./45./..1");
         due("tellAll() where it is not well", x.tellAll(), -5);
         dueGrid("tellAll() that was refused", x, "23./45./..1");
@@ -210,6 +217,12 @@ public final class PromiseTests {
         due("read() of 7 with the modulus 7", x.read(), -2);
         due("count(10) as nothing changed", x.count(10), 5);
         due("count(11)", x.count(11), 0);
+        x.wipe();
+        write(x, "71/1.");
+        due("read() of 7 as the first one", x.read(), -2);
+        x.wipe();
+        write(x, "11/17");
+        due("read() of 7 as the last one", x.read(), -2);
         write(x, "/1");
         due("read() of a fault, ahead of the number", x.read(), -3);
         due("count(10) as nothing changed", x.count(10), 7);
@@ -327,6 +340,9 @@ public final class PromiseTests {
     private static void rank() {
         due("count(9) of nothing", new OneRankGrid().count(9), 0);
         due("count(9) of one entry", gridOf(5, "../.3").count(9), 1);
+        due("count(9) of the first entry", gridOf(5, "3./..").count(9), 1);
+        due("count(9) by a pivot that is further below, and a row that is there twice",
+                gridOf(7, "1111/1123/1212/1212").count(9), 3);
         due("count(9)", gridOf(7, "12./.34/5.6").count(9), 1);
         due("count(9) of a regular grid", gridOf(7, "124/142/111").count(9), 3);
         due("count(9) where the third row is a sum", gridOf(7, "124/142/266").count(9), 2);
@@ -389,6 +405,9 @@ public final class PromiseTests {
         due("wrong(0)", x.wrong(0), 4);
         due("wrong(1): 6 is ahead of 9", x.wrong(1), 6);
         due("wrong(2)", x.wrong(2), 10);
+        x = gridOf(7, "..11/..12/11../12..");
+        due("wrong(1): the rows decide ahead of the columns", x.wrong(1), 3);
+        due("wrong(2)", x.wrong(2), 12);
         // In the same rows the sets of the columns decide.
         x = gridOf(7, "1111/1222/....");
         due("wrong(1)", x.wrong(1), 3);
@@ -401,6 +420,8 @@ public final class PromiseTests {
         due("wrong(0) where none is wrong", x.wrong(0), -6);
         due("wrong(2) where none is wrong", x.wrong(2), -6);
         due("wrong(3) ahead of none", x.wrong(3), -2);
+        x.tell(1, 1, 3);
+        due("wrong(0) as soon as one is wrong", x.wrong(0), 4);
         x = gridOf(13, "11..../.11.../..11../...11./....11/5....1");
         due("wrong(0) of the longest", x.wrong(0), 12);
         due("wrong(1)", x.wrong(1), 63);
@@ -505,6 +526,10 @@ public final class PromiseTests {
         due("bestEntry(0)", x.bestEntry(0), 1);
         due("bestEntry(1)", x.bestEntry(1), 2);
         due("bestEntry(2)", x.bestEntry(2), 4);
+        x = gridOf(7, ".1/.1");
+        due("bestEntry(0) of the first place", x.bestEntry(0), 0);
+        due("bestEntry(1)", x.bestEntry(1), 0);
+        due("bestEntry(2)", x.bestEntry(2), 2);
         x = gridOf(7, "12/3.");
         due("bestEntry(0) of one part", x.bestEntry(0), -6);
         due("bestEntry(2) of one part", x.bestEntry(2), -6);

@@ -152,9 +152,9 @@ public final class OneRankGrid {
             case 6:
                 return countOfParts(what);
             case 7:
-                return minors.countAll(grid);
+                return minors.countAll(grid, false);
             case 8:
-                return minors.countNotZero(grid);
+                return minors.countAll(grid, true);
             case 9:
                 return minors.leastRank(grid);
             case 10:
@@ -533,6 +533,10 @@ public final class OneRankGrid {
             return modulus > 0 ? one * other % modulus : 0;
         }
 
+        int remainder(int number) {
+            return modulus > 0 ? number % modulus : 0;
+        }
+
         /** The number that gives the dividend with the divisor; 0 if there is none. */
         int quotient(int dividend, int divisor) {
             for (int number = 0; number < modulus; number++) {
@@ -581,7 +585,7 @@ public final class OneRankGrid {
         /** Takes into the newest part all that told entries join to it. */
         private void spread(Grid grid) {
             boolean grown = true;
-            // Each round but the last one reaches at least one row or column more.
+            // Each round but the last one reaches at least one row or column more, so there are never more rounds.
             for (int round = 0; round <= 2 * SIDE && grown; round++) {
                 grown = false;
                 for (int row = 0; row < grid.rows(); row++) {
@@ -628,7 +632,7 @@ public final class OneRankGrid {
             return size;
         }
 
-        /** Whether the grid is well. */
+        /** Whether the grid that was looked at last is well. */
         boolean isConsistent() {
             return consistent;
         }
@@ -777,7 +781,7 @@ public final class OneRankGrid {
         }
 
         private void noteWrong(int rows, int columns) {
-            boolean isEarlier = rows < wrongRows || rows == wrongRows && columns < wrongColumns;
+            boolean isEarlier = rows < wrongRows || (rows == wrongRows && columns < wrongColumns);
             if (wrongOnes == 0 || isEarlier) {
                 wrongRows = rows;
                 wrongColumns = columns;
@@ -813,21 +817,11 @@ public final class OneRankGrid {
         /** The rows and columns that are eliminated, by the same places as in a grid. */
         private final Numbers matrix = new Numbers(SIDE * SIDE);
 
-        int countAll(Grid grid) {
+        int countAll(Grid grid, boolean onlyNotZero) {
             int minors = 0;
             for (int row = 0; row < grid.rows(); row++) {
                 for (int column = 0; column < grid.columns(); column++) {
-                    minors += countBelow(grid, row, column, false);
-                }
-            }
-            return minors;
-        }
-
-        int countNotZero(Grid grid) {
-            int minors = 0;
-            for (int row = 0; row < grid.rows(); row++) {
-                for (int column = 0; column < grid.columns(); column++) {
-                    minors += countBelow(grid, row, column, true);
+                    minors += countBelow(grid, row, column, onlyNotZero);
                 }
             }
             return minors;
@@ -924,7 +918,7 @@ public final class OneRankGrid {
             int negative = grid.modulus() - factor;
             for (int i = 0; i < SIDE; i++) {
                 int sum = matrix.get(SIDE * row + i) + negative * matrix.get(SIDE * pivot + i);
-                matrix.set(SIDE * row + i, grid.product(sum, 1));
+                matrix.set(SIDE * row + i, grid.remainder(sum));
             }
         }
     }
@@ -961,7 +955,7 @@ public final class OneRankGrid {
             for (int i = 0; i < length; i++) {
                 int code = codes.get(i);
                 if (code == '/') {
-                    if (signs < LEAST_SIDE || ended > 0 && signs != width || ended == SIDE - 1) {
+                    if (signs < LEAST_SIDE || (ended > 0 && signs != width) || ended == SIDE - 1) {
                         return i;
                     }
                     width = signs;
