@@ -183,7 +183,7 @@ public final class OneRankGrid {
         if (isOutside(length, 2 * LEAST_SIDE, 2 * SIDE) || (length & 1) != 0 || isOutside(what, 0, 1)) {
             return BAD_VALUE;
         }
-        rings.search(grid, length >> 1);
+        rings.search(grid, length >> 1, what == 1);
         return what == 0 ? rings.all() : rings.wrongOnes();
     }
 
@@ -208,7 +208,7 @@ public final class OneRankGrid {
             return 0;
         }
         for (int turns = LEAST_SIDE; turns <= SIDE; turns++) {
-            rings.search(grid, turns);
+            rings.search(grid, turns, true);
             if (rings.wrongOnes() > 0) {
                 return turns;
             }
@@ -510,17 +510,6 @@ public final class OneRankGrid {
             return set;
         }
 
-        /** The rows in which the column has told entries, as a set. */
-        int toldInColumn(int column) {
-            int set = 0;
-            for (int row = 0; row < rows; row++) {
-                if (number(row, column) != 0) {
-                    set |= 1 << row;
-                }
-            }
-            return set;
-        }
-
         int toldCount() {
             int told = 0;
             for (int row = 0; row < rows; row++) {
@@ -706,100 +695,152 @@ public final class OneRankGrid {
         }
     }
 
-    /** Walks along all cycles of one length, each once: from its lowest row on, and off by the lower column there. */
+    /**
+     * Counts the cycles of one length. It goes through the orders in which a cycle can have its rows,
+     * from the lowest one on, and keeps for each set of columns in how many ways told entries lead along
+     * the rows so far over just these columns. That takes far fewer steps than to walk along each cycle.
+     */
     private static final class Rings {
+        private static final int COLUMN_SETS = 1 << SIDE;
+        /** Numbers for each set, more than the greatest modulus less 1. */
+        private static final int RATIOS = 13;
+
         private final Grid grid = new Grid();
         private final Numbers toldInRow = new Numbers(SIDE);
-        private final Numbers toldInColumn = new Numbers(SIDE);
+        /** The ways apart by their ratio: the product of the entries that lead to a column by that of those behind. */
+        private final Numbers ways = new Numbers(COLUMN_SETS * RATIOS);
+        /** For each column that of the step that is just made. */
+        private final Numbers ratios = new Numbers(SIDE);
         private int turns;
         private int home;
-        private int firstColumn;
+        /** The greatest ratio that is told apart; 1 if none are. */
+        private int greatestRatio;
         private int all;
         private int wrongOnes;
         private int wrongRows;
         private int wrongColumns;
 
-        /** Looks for the cycles with so many rows. */
-        void search(Grid source, int rowsOfRing) {
+        /** Looks for the cycles with so many rows; without their ratios it is quicker, but none is found wrong. */
+        void search(Grid source, int rowsOfRing, boolean withRatios) {
             grid.copyFrom(source);
             turns = rowsOfRing;
+            greatestRatio = withRatios ? grid.modulus() - 1 : 1;
             all = 0;
             wrongOnes = 0;
             wrongRows = 0;
             wrongColumns = 0;
-            for (int i = 0; i < SIDE; i++) {
-                toldInRow.set(i, grid.toldInRow(i));
-                toldInColumn.set(i, grid.toldInColumn(i));
+            // One way, of the ratio 1, leads over no columns.
+            ways.set(1, 1);
+            for (int row = 0; row < SIDE; row++) {
+                toldInRow.set(row, grid.toldInRow(row));
             }
             for (int row = 0; row < grid.rows(); row++) {
                 home = row;
-                walk(1, row, 1 << row, 0, 1, 1);
+                walk(1, row, 1 << row);
             }
         }
 
-        /**
-         * Goes on from a row. The depth is the number of rows so far; out is the product of the
-         * entries that led from a row to a column, back that of those from a column to a row.
-         */
-        private void walk(int depth, int row, int rowsSeen, int columnsSeen, int out, int back) {
+        /** Goes on from a row; the depth is how many rows there are so far. */
+        private void walk(int depth, int row, int rowsSeen) {
             if (depth >= turns) {
-                close(row, rowsSeen, columnsSeen, out, back);
+                if (lead(depth, row, home)) {
+                    collect(rowsSeen);
+                }
                 return;
             }
-            int open = toldInRow.get(row) & ~columnsSeen;
+            for (int next = home + 1; next < grid.rows(); next++) {
+                if (!holds(rowsSeen, next) && lead(depth, row, next)) {
+                    walk(depth + 1, next, rowsSeen | 1 << next);
+                }
+            }
+        }
+
+        /** Makes the ways over so many columns, of those over one less and a column between the two rows. */
+        private boolean lead(int size, int from, int to) {
+            int both = toldInRow.get(from) & toldInRow.get(to);
+            findRatios(both, from, to);
+            forgetSetsOf(size);
+            boolean isLed = false;
+            for (int set = 0; set < COLUMN_SETS; set++) {
+                int open = both & ~set;
+                if (open != 0 && Integer.bitCount(set) == size - 1) {
+                    for (int column = 0; column < SIDE; column++) {
+                        if (holds(open, column) && leadOn(set, column)) {
+                            isLed = true;
+                        }
+                    }
+                }
+            }
+            return isLed;
+        }
+
+        private void findRatios(int columns, int from, int to) {
             for (int column = 0; column < SIDE; column++) {
-                if (!holds(open, column)) {
-                    continue;
+                if (greatestRatio > 1 && holds(columns, column)) {
+                    ratios.set(column, grid.quotient(grid.number(from, column), grid.number(to, column)));
+                } else {
+                    ratios.set(column, 1);
                 }
-                if (depth == 1) {
-                    firstColumn = column;
+            }
+        }
+
+        private boolean leadOn(int set, int column) {
+            int larger = set | 1 << column;
+            int ratio = ratios.get(column);
+            boolean isLed = false;
+            for (int i = 1; i <= greatestRatio; i++) {
+                int count = ways.get(RATIOS * set + i);
+                if (count != 0) {
+                    int place = RATIOS * larger + grid.product(i, ratio);
+                    ways.set(place, ways.get(place) + count);
+                    isLed = true;
                 }
-                int further = toldInColumn.get(column) & ~rowsSeen & above(home);
-                int outThen = grid.product(out, grid.number(row, column));
-                for (int next = home + 1; next < SIDE; next++) {
-                    if (holds(further, next)) {
-                        int backThen = grid.product(back, grid.number(next, column));
-                        walk(depth + 1, next, rowsSeen | 1 << next, columnsSeen | 1 << column, outThen, backThen);
+            }
+            return isLed;
+        }
+
+        private void forgetSetsOf(int size) {
+            for (int set = 0; set < COLUMN_SETS; set++) {
+                if (Integer.bitCount(set) == size) {
+                    for (int i = 1; i <= greatestRatio; i++) {
+                        ways.set(RATIOS * set + i, 0);
                     }
                 }
             }
         }
 
-        /** Counts the cycles that lead from the last row over one more column home. */
-        private void close(int row, int rowsSeen, int columnsSeen, int out, int back) {
-            int ends = toldInRow.get(row) & toldInRow.get(home) & ~columnsSeen & above(firstColumn);
-            for (int column = 0; column < SIDE; column++) {
-                if (holds(ends, column)) {
-                    all++;
-                    int outThen = grid.product(out, grid.number(row, column));
-                    int backThen = grid.product(back, grid.number(home, column));
-                    if (outThen != backThen) {
-                        noteWrong(rowsSeen, columnsSeen | 1 << column);
+        /** Counts the ways that have come home. */
+        private void collect(int rows) {
+            for (int set = 0; set < COLUMN_SETS; set++) {
+                if (Integer.bitCount(set) == turns) {
+                    all += ways.get(RATIOS * set + 1);
+                    for (int i = 2; i <= greatestRatio; i++) {
+                        noteWrong(ways.get(RATIOS * set + i), rows, set);
                     }
                 }
             }
         }
 
-        private void noteWrong(int rows, int columns) {
+        private void noteWrong(int count, int rows, int columns) {
+            if (count == 0) {
+                return;
+            }
             boolean isEarlier = rows < wrongRows || (rows == wrongRows && columns < wrongColumns);
             if (wrongOnes == 0 || isEarlier) {
                 wrongRows = rows;
                 wrongColumns = columns;
             }
-            wrongOnes++;
-        }
-
-        /** The set of all numbers that are greater. */
-        private static int above(int number) {
-            return -1 << (number + 1);
+            all += count;
+            wrongOnes += count;
         }
 
         int all() {
-            return all;
+            // Each cycle was gone along both ways.
+            return all / 2;
         }
 
         int wrongOnes() {
-            return wrongOnes;
+            return wrongOnes / 2;
         }
 
         /** The rows of the first one of the wrong cycles. */
