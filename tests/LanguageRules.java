@@ -16,7 +16,7 @@ public final class LanguageRules {
     private static final Path SOURCE = Path.of("src/main/java/OneRankGrid.java");
     private static final List<String> BANNED = List.of(
             "\\bthrow\\b", "\\bthrows\\b", "\\btry\\b", "\\bcatch\\b", "\\bsynchronized\\b", "\\bassert\\b",
-            "\\bimport\\b", "\\bpackage\\b", "->", "::", "Exact\\b", "\\bvar\\b", "\\bObject\\b", "\\bSystem\\.(?!arraycopy)",
+            "\\bimport\\b(?! java\\.util\\.(ArrayList|List|Arrays|Iterator);)", "\\bpackage\\b", "->", "::", "Exact\\b", "\\bvar\\b", "\\bObject\\b", "\\bSystem\\.(?!arraycopy)",
             "\\bThread\\b", "\\bRandom\\b", "@", "\\bprotected\\b", "static\\s*\\{");
     private static final List<String> METHODS = List.of(
             "int begin(int,int,int)", "int tell(int,int,int)", "int tellAll()", "int read()", "int entry(int,int,int)",

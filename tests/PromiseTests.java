@@ -1,18 +1,5 @@
 /** For each promise of the document: ordinary inputs, the edges that it names, and wrong inputs. */
-public final class PromiseTests {
-    private static final int LOW = Integer.MIN_VALUE;
-    private static final int HIGH = Integer.MAX_VALUE;
-
-    private static int wrong = 0;
-    private static int promise = 0;
-
-    private static void due(String call, long got, long want) {
-        if (got != want) {
-            wrong++;
-            System.out.println("promise " + promise + ": " + call + " answered " + got + ", due is " + want);
-        }
-    }
-
+public final class PromiseTests extends Checks {
     public static void main(String[] args) {
         newObject();
         begin();
@@ -36,54 +23,13 @@ public final class PromiseTests {
         undo();
         saveAndRestore();
         fullGridsEndQuickly();
-        System.out.println(wrong == 0 ? "all promises hold" : wrong + " answers are not as due");
-        if (wrong != 0) {
-            System.exit(1);
-        }
-    }
-
-    // ---- help
-
-    private static long word(String text) {
-        long characters = 0;
-        for (int i = 0; i < text.length(); i++) {
-            characters = characters << 8 | text.charAt(i);
-        }
-        return characters;
-    }
-
-    private static void write(OneRankGrid x, String text) {
-        for (int i = 0; i < text.length(); i += 8) {
-            x.put(word(text.substring(i, Math.min(i + 8, text.length()))));
-        }
-    }
-
-    /** A new object with the grid of a text; its history holds two changes. */
-    private static OneRankGrid gridOf(int modulus, String text) {
-        OneRankGrid x = new OneRankGrid();
-        x.begin(2, 2, modulus);
-        write(x, text);
-        due("read() of " + text, x.read() >= 0 ? 1 : 0, 1);
-        return x;
-    }
-
-    /** Whether the grid, row by row, is that of the text. */
-    private static void dueGrid(String after, OneRankGrid x, String text) {
-        String[] rows = text.split("/");
-        due("count(0) after " + after, x.count(0), rows.length);
-        due("count(1) after " + after, x.count(1), rows[0].length());
-        for (int r = 0; r < rows.length; r++) {
-            for (int c = 0; c < rows[r].length(); c++) {
-                int number = ".123456789abc".indexOf(rows[r].charAt(c));
-                due("entry(" + r + ", " + c + ", 0) after " + after, x.entry(r, c, 0), number);
-            }
-        }
+        end();
     }
 
     // ---- changes
 
     private static void newObject() {
-        promise = 1;
+        about(1);
         OneRankGrid x = new OneRankGrid();
         dueGrid("new", x, ".../.../...");
         due("count(2)", x.count(2), 7);
@@ -97,7 +43,7 @@ public final class PromiseTests {
     }
 
     private static void begin() {
-        promise = 2;
+        about(2);
         OneRankGrid x = new OneRankGrid();
         due("begin(2, 6, 5)", x.begin(2, 6, 5), 0);
         dueGrid("begin(2, 6, 5)", x, "....../......");
@@ -140,7 +86,7 @@ public final class PromiseTests {
     }
 
     private static void tell() {
-        promise = 3;
+        about(3);
         OneRankGrid x = new OneRankGrid();
         due("tell(0, 0, 6)", x.tell(0, 0, 6), 0);
         due("tell(0, 0, 1)", x.tell(0, 0, 1), 6);
@@ -171,7 +117,7 @@ public final class PromiseTests {
     }
 
     private static void tellAll() {
-        promise = 4;
+        about(4);
         OneRankGrid x = gridOf(7, "23./4../...");
         due("tellAll()", x.tellAll(), 1);
         dueGrid("tellAll()", x, "23./46./...");
@@ -200,7 +146,7 @@ public final class PromiseTests {
     }
 
     private static void read() {
-        promise = 5;
+        about(5);
         OneRankGrid x = new OneRankGrid();
         due("read() of nothing", x.read(), -3);
         write(x, "12.456/.23456");
@@ -247,7 +193,7 @@ public final class PromiseTests {
     // ---- what there is
 
     private static void entry() {
-        promise = 6;
+        about(6);
         OneRankGrid x = gridOf(7, "23./4../..1");
         due("entry(0, 1, 0)", x.entry(0, 1, 0), 3);
         due("entry(0, 2, 0)", x.entry(0, 2, 0), 0);
@@ -285,7 +231,7 @@ public final class PromiseTests {
     }
 
     private static void part() {
-        promise = 7;
+        about(7);
         // Row 0 has nothing; rows 1 and 3 are joined by column 2; row 2 has columns 1 and 3; column 0 and 4 are alone.
         OneRankGrid x = gridOf(11, "...../..5../.2.7./..9..");
         int[][] parts = {{1, 0, 0}, {10, 4, 2}, {4, 10, 2}, {0, 1, 0}, {0, 16, 0}};
@@ -316,7 +262,7 @@ public final class PromiseTests {
     }
 
     private static void count() {
-        promise = 8;
+        about(8);
         OneRankGrid x = gridOf(7, "123./246./11../....");
         write(x, "12/");
         int[] counts = {4, 4, 7, 8, 3, 0, 9, 5, 2, 2, 3, 2};
@@ -356,7 +302,7 @@ public final class PromiseTests {
     // ---- cycles
 
     private static void cycles() {
-        promise = 9;
+        about(9);
         OneRankGrid x = gridOf(13, "111111/111111/111111/111111/111111/111111");
         int[] all = {225, 2400, 16200, 51840, 43200};
         for (int i = 0; i < all.length; i++) {
@@ -390,7 +336,7 @@ public final class PromiseTests {
     }
 
     private static void wrong() {
-        promise = 10;
+        about(10);
         OneRankGrid x = gridOf(7, "11./.11/2.1");
         due("wrong(0)", x.wrong(0), 6);
         due("wrong(1)", x.wrong(1), 7);
@@ -432,7 +378,7 @@ public final class PromiseTests {
     // ---- completions
 
     private static void completions() {
-        promise = 11;
+        about(11);
         due("completions() of nothing", new OneRankGrid().completions(), 7776);
         OneRankGrid x = new OneRankGrid();
         x.begin(6, 6, 13);
@@ -443,7 +389,7 @@ public final class PromiseTests {
     }
 
     private static void completed() {
-        promise = 12;
+        about(12);
         // Parts: rows 0, 2 with column 1; row 1; column 0; column 2. The row 2 has 4 where the row 0 has 3: 4 / 3 is 5 modulo 11.
         OneRankGrid x = gridOf(11, ".3./.../.4.");
         due("completed(0, 0, 0)", x.completed(0, 0, 0), 1);
@@ -477,7 +423,7 @@ public final class PromiseTests {
     // ---- what if
 
     private static void isWellIf() {
-        promise = 13;
+        about(13);
         OneRankGrid x = gridOf(7, "23./45./...");
         due("isWellIf(1, 1, 6)", x.isWellIf(1, 1, 6), 1);
         due("isWellIf(1, 1, 5)", x.isWellIf(1, 1, 5), 0);
@@ -498,7 +444,7 @@ public final class PromiseTests {
     }
 
     private static void spoilers() {
-        promise = 14;
+        about(14);
         due("spoilers() where it is well", gridOf(7, "12/24").spoilers(), -6);
         due("spoilers() of nothing", new OneRankGrid().spoilers(), -6);
         due("spoilers() of one minor", gridOf(7, "12/25").spoilers(), 195);
@@ -512,7 +458,7 @@ public final class PromiseTests {
     }
 
     private static void bestEntry() {
-        promise = 15;
+        about(15);
         // Parts: rows 0, 1 and column 0; row 2 and columns 2, 3; column 1. Joined, the first two: 2 * 2 + 1 * 1.
         OneRankGrid x = gridOf(7, "1.../1.../..11");
         due("bestEntry(0)", x.bestEntry(0), 0);
@@ -544,7 +490,7 @@ public final class PromiseTests {
     // ---- texts
 
     private static void put() {
-        promise = 16;
+        about(16);
         OneRankGrid x = new OneRankGrid();
         due("put(\"1\")", x.put(word("1")), 1);
         due("put(\"2/34\")", x.put(word("2/34")), 5);
@@ -571,7 +517,7 @@ public final class PromiseTests {
     }
 
     private static void wipe() {
-        promise = 17;
+        about(17);
         OneRankGrid x = new OneRankGrid();
         due("wipe() of nothing", x.wipe(), 0);
         x.put(word("12/34"));
@@ -593,7 +539,7 @@ public final class PromiseTests {
     }
 
     private static void fault() {
-        promise = 18;
+        about(18);
         dueFault("", 0);
         dueFault("12/34", -6);
         dueFault("....../....../....../....../....../......", -6);
@@ -628,7 +574,7 @@ public final class PromiseTests {
     // ---- undo, saving
 
     private static void undo() {
-        promise = 19;
+        about(19);
         OneRankGrid x = new OneRankGrid();
         for (int number = 1; number <= 6; number++) {
             x.tell(0, 0, number);
@@ -684,7 +630,7 @@ public final class PromiseTests {
     }
 
     private static void saveAndRestore() {
-        promise = 20;
+        about(20);
         OneRankGrid x = gridOf(13, "12/3c/..");
         due("save(0)", x.save(0), 4);
         x.tell(2, 0, 5);
@@ -694,7 +640,7 @@ public final class PromiseTests {
         }
         due("count(11), as save() is no change", x.count(11), 3);
 
-        promise = 21;
+        about(21);
         x.begin(2, 2, 5);
         x.put(word("1"));
         due("restore(0)", x.restore(0), 4);
@@ -714,7 +660,7 @@ public final class PromiseTests {
         }
         dueGrid("restore() that was refused", x, "12/3c/..");
 
-        promise = 20;
+        about(20);
         due("begin(2, 3, 7)", x.begin(2, 3, 7), 4);
         due("save(0) over what was saved", x.save(0), 0);
         x.restore(1);
@@ -725,7 +671,7 @@ public final class PromiseTests {
 
     /** 512 of the longest searches on one object: it has to end, and with the same answers. */
     private static void fullGridsEndQuickly() {
-        promise = 9;
+        about(9);
         OneRankGrid x = gridOf(13, "123456/123456/123456/123456/123456/123457");
         for (int call = 0; call < 100; call++) {
             due("cycles(12, 1)", x.cycles(12, 1), 43200 * 12 / 36);

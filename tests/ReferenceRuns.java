@@ -13,7 +13,10 @@ import java.util.Set;
  */
 public final class ReferenceRuns {
     private static final int RUNS = 400;
-    private static final int CALLS = 500;
+    /** What an object answers after so many calls is free. */
+    private static final int CALLS = 512;
+    /** The most calls that a player's step makes: wipe, six puts, fault, read. */
+    private static final int STEP = 9;
     private static final int SHOWN = 20;
 
     private static long seed;
@@ -53,32 +56,32 @@ public final class ReferenceRuns {
         OneRankGrid grid = new OneRankGrid();
         Model model = new Model();
         Player player = new Player(grid, model, run);
-        for (int call = 0; call < CALLS && wrong == 0; call++) {
+        while (player.calls + STEP <= CALLS && wrong == 0) {
             player.call();
         }
     }
 
     /** Compares with all grids that there are, in small grids. */
     private static void compareCompletions(int modulus) {
-        OneRankGrid grid = new OneRankGrid();
         int rows = 2 + pick(2);
         int columns = 2 + pick(2);
-        grid.begin(rows, columns, modulus);
         int[][] told = new int[rows][columns];
         for (int i = pick(rows * columns); i > 0; i--) {
-            int r = pick(rows);
-            int c = pick(columns);
-            told[r][c] = 1 + pick(modulus - 1);
-            grid.tell(r, c, told[r][c]);
+            told[pick(rows)][pick(columns)] = 1 + pick(modulus - 1);
         }
+        OneRankGrid grid = gridOf(told, modulus);
         List<int[]> all = allCompletions(told, modulus);
         due("completions()", grid.completions(), all.size());
         due("count(5)", grid.count(5), all.isEmpty() ? 0 : 1);
         Set<List<Integer>> seen = new HashSet<>();
+        OneRankGrid asked = grid;
         for (int k = 0; k < all.size(); k++) {
+            if (k % 50 == 0) {
+                asked = gridOf(told, modulus);
+            }
             List<Integer> entries = new ArrayList<>();
             for (int place = 0; place < rows * columns; place++) {
-                entries.add(grid.completed(k, place / columns, place % columns));
+                entries.add(asked.completed(k, place / columns, place % columns));
             }
             seen.add(entries);
         }
@@ -102,6 +105,17 @@ public final class ReferenceRuns {
             }
             due("entry(.., 1)", grid.entry(place / columns, place % columns, 1), same);
         }
+    }
+
+    private static OneRankGrid gridOf(int[][] told, int modulus) {
+        OneRankGrid grid = new OneRankGrid();
+        grid.begin(told.length, told[0].length, modulus);
+        for (int r = 0; r < told.length; r++) {
+            for (int c = 0; c < told[r].length; c++) {
+                grid.tell(r, c, told[r][c]);
+            }
+        }
+        return grid;
     }
 
     /** All grids with the told entries in which each two rows are multiples, by the words of the document. */
@@ -150,6 +164,7 @@ public final class ReferenceRuns {
         private final Model model;
         private final int run;
         private final StringBuilder trace = new StringBuilder();
+        int calls = 0;
 
         Player(OneRankGrid grid, Model model, int run) {
             this.grid = grid;
@@ -158,6 +173,7 @@ public final class ReferenceRuns {
         }
 
         private void same(String call, long got, long want) {
+            calls++;
             trace.append("  ").append(call).append(" -> ").append(want).append('\n');
             if (got != want) {
                 complain("run " + run + ": " + call + " answered " + got + ", due is " + want + ", after\n" + trace);
