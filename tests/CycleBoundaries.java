@@ -5,6 +5,7 @@ public final class CycleBoundaries extends Checks {
         cyclesOfAll();
         cyclesThatAreTooLong();
         theShortestAndTheLongestCycle();
+        theLongestCycleInEachOrder();
         oneEntryLessIsNoCycle();
         cyclesRefuse();
         eachMinorOfEachModulus();
@@ -117,6 +118,34 @@ public final class CycleBoundaries extends Checks {
                 }
             }
         }
+    }
+
+    private static void theLongestCycleInEachOrder() {
+        about(9, "row, column, row, column, and so on, back to the first row");
+        for (int number = 0; number < 720; number++) {
+            dueRing(order(6, number), order(6, 0));
+            dueRing(order(6, 0), order(6, number));
+            dueRing(order(6, number), order(6, 719 - number));
+        }
+    }
+
+    /** A ring over all rows and columns in these orders; the last of its entries makes it wrong. */
+    private static void dueRing(int[] rows, int[] columns) {
+        OneRankGrid x = begun(6, 6, 13);
+        long set = 0;
+        for (int i = 0; i < 6; i++) {
+            int behind = columns[(i + 1) % 6];
+            x.tell(rows[i], columns[i], 5);
+            x.tell(rows[i], behind, 5);
+            set |= 1L << (6 * rows[i] + columns[i]) | 1L << (6 * rows[i] + behind);
+        }
+        due("cycles(12, 0) of one ring", x.cycles(12, 0), 1);
+        due("cycles(12, 1) of one ring that is right", x.cycles(12, 1), 0);
+        x.tell(rows[5], columns[0], 6);
+        due("cycles(12, 1) of one ring that is wrong", x.cycles(12, 1), 1);
+        dueWrong("one ring", x, 12, 63, 63);
+        due("spoilers() of one ring", x.spoilers(), set);
+        due("entry(.., 2) of the wrong one", x.entry(rows[5], columns[0], 2), 5);
     }
 
     private static void oneEntryLessIsNoCycle() {

@@ -3,9 +3,11 @@ public final class PartBoundaries extends Checks {
     public static void main(String[] args) {
         partsOfNothing();
         onePartOfAll();
+        onePartByTheLongestWay();
         rowsAndColumnsByThemselves();
         partsAreInTheOrderOfTheirLowestRows();
         partsWithoutRowsComeBehind();
+        partsWhereItIsNotWell();
         partNamesItsErrorsInOrder();
         countTakesTwelveNumbers();
         countsOfNothingAndOfAll();
@@ -13,6 +15,7 @@ public final class PartBoundaries extends Checks {
         noCompletions();
         completedOfOnePart();
         completedOfAllDigits();
+        completedOfElevenDigits();
         completedOfTheFirstAndTheLast();
         completedOfColumnsWithoutRows();
         completedRefuses();
@@ -76,6 +79,40 @@ public final class PartBoundaries extends Checks {
         due("part(2, 0)", x.part(2, 0), NO_SUCH);
     }
 
+    private static void onePartByTheLongestWay() {
+        about(7, "if one can go from the one to the other by told entries");
+        int[] backwards = {5, 4, 3, 2, 1, 0};
+        for (int number = 0; number < 720; number++) {
+            dueWay(order(6, number), order(6, 0));
+            dueWay(order(6, number), backwards);
+            dueWay(order(6, 0), order(6, number));
+            dueWay(backwards, order(6, number));
+            dueWay(order(6, number), order(6, 719 - number));
+        }
+    }
+
+    /** A way over all rows and columns in these orders, with just the entries that it takes. */
+    private static void dueWay(int[] rows, int[] columns) {
+        OneRankGrid x = begun(6, 6, 13);
+        int far = 1;
+        for (int i = 0; i < 6; i++) {
+            x.tell(rows[i], columns[i], 2);
+            far = quotient(2 * far, i == 0 ? 2 : 3, 13);
+            if (i > 0) {
+                x.tell(rows[i], columns[i - 1], 3);
+            }
+        }
+        duePart(x, 0, 63, 63, 11);
+        due("count(4) of one way", x.count(4), 1);
+        due("count(5) of one way", x.count(5), 1);
+        due("count(6) of one way", x.count(6), 36);
+        due("completions() of one way", x.completions(), 1);
+        due("bestEntry(0) of one way", x.bestEntry(0), NONE);
+        // From the first row on, each column has 2 where the row behind has 3.
+        due("the entry that the ends of the way join", x.entry(rows[0], columns[5], 1), 2 * far % 13);
+        due("the same, completed", x.completed(0, rows[0], columns[5]), 2 * far % 13);
+    }
+
     private static void rowsAndColumnsByThemselves() {
         about(7, "a row or a column without told entries is a part by itself");
         OneRankGrid x = gridOf(7, "11111./11111./11111./11111./11111./......");
@@ -120,6 +157,16 @@ public final class PartBoundaries extends Checks {
             duePart(x, 2 + i, 0, columns[i], 0);
         }
         due("part(7, 0)", x.part(7, 0), NO_SUCH);
+    }
+
+    private static void partsWhereItIsNotWell() {
+        about(7, "parts are about told entries, well or not");
+        OneRankGrid x = gridOf(5, "11../12../..11/..14");
+        duePart(x, 0, 3, 3, 4);
+        duePart(x, 1, 12, 12, 4);
+        due("part(2, 0)", x.part(2, 0), NO_SUCH);
+        due("count(4)", x.count(4), 2);
+        due("count(6)", x.count(6), 8);
     }
 
     private static void partNamesItsErrorsInOrder() {
@@ -241,6 +288,27 @@ public final class PartBoundaries extends Checks {
                         due("completed(" + k + ", " + row + ", " + column + ") modulo " + modulus,
                                 x.completed(k, row, column), quotient(factors[row], factors[2 + column], modulus));
                     }
+                }
+            }
+        }
+    }
+
+    private static void completedOfElevenDigits() {
+        about(12, "the digits of k are those to the base (modulus less 1), and the part 1 has the lowest digit");
+        for (int modulus : MODULI) {
+            for (int step = 1; step <= 5; step++) {
+                int[] factors = new int[12];
+                long k = 0;
+                for (int part = 11; part >= 0; part--) {
+                    int digit = part == 0 ? 0 : (step * part + 3) % (modulus - 1);
+                    factors[part] = 1 + digit;
+                    k = part == 0 ? k : k * (modulus - 1) + digit;
+                }
+                OneRankGrid x = begun(6, 6, modulus);
+                for (int place = 0; place < 36; place++) {
+                    due("completed(" + k + ", ..) of the place " + place + " modulo " + modulus,
+                            x.completed(k, place / 6, place % 6),
+                            quotient(factors[place / 6], factors[6 + place % 6], modulus));
                 }
             }
         }

@@ -127,4 +127,21 @@ abstract class Checks {
         }
         return 0;
     }
+
+    /** The numbers from 0 on in the order with this number: of six, there are 720 orders. */
+    static int[] order(int size, int number) {
+        int[] order = new int[size];
+        int rest = number;
+        for (int i = 0; i < size; i++) {
+            order[i] = i;
+        }
+        for (int i = 0; i < size; i++) {
+            int j = i + rest % (size - i);
+            rest /= size - i;
+            int kept = order[i];
+            order[i] = order[j];
+            order[j] = kept;
+        }
+        return order;
+    }
 }
