@@ -1,3 +1,9 @@
+import java.util.ArrayList;
+import java.util.HashSet;
+import java.util.List;
+import java.util.Set;
+import java.util.TreeSet;
+
 /** The boundaries that the document names for parts, counts, completions and the best entry. */
 public final class PartBoundaries extends Checks {
     public static void main(String[] args) {
@@ -18,6 +24,7 @@ public final class PartBoundaries extends Checks {
         completedOfElevenDigits();
         completedOfTheFirstAndTheLast();
         completedOfColumnsWithoutRows();
+        completedIsACompletion();
         completedRefuses();
         bestEntryOfNothing();
         bestEntryOfOnePart();
@@ -362,6 +369,56 @@ public final class PartBoundaries extends Checks {
                 }
             }
         }
+    }
+
+    /** By the words of the document alone, in grids of each size and modulus of which some entries are told. */
+    private static void completedIsACompletion() {
+        about(12, "a completion has the told entries, and each two rows are multiples of each other");
+        for (int modulus : MODULI) {
+            for (int rows = 2; rows <= 6; rows++) {
+                for (int columns = 2; columns <= 6; columns++) {
+                    for (int step = 2; step <= 5; step++) {
+                        dueCompletions(rows, columns, modulus, step);
+                    }
+                }
+            }
+        }
+    }
+
+    /** The told entries are products of a number for each row and column, so the grid is well. */
+    private static void dueCompletions(int rows, int columns, int modulus, int step) {
+        OneRankGrid x = begun(rows, columns, modulus);
+        for (int place = step % 3; place < rows * columns; place += step) {
+            int row = place / columns;
+            int column = place % columns;
+            x.tell(row, column, (1 + step * row % (modulus - 1)) * (1 + (column + step) % (modulus - 1)) % modulus);
+        }
+        long all = x.completions();
+        due("completions()", all, power(modulus - 1, x.count(4) - 1));
+        Set<List<Integer>> different = new HashSet<>();
+        Set<Long> numbers = new TreeSet<>(List.of(0L, all / 3, all / 2, all - all / 5 - 1, all - 1));
+        for (long k : numbers) {
+            different.add(dueCompletion(x, k, rows, columns, modulus));
+        }
+        due("how many of the completions " + numbers + " are different", different.size(), numbers.size());
+    }
+
+    private static List<Integer> dueCompletion(OneRankGrid x, long k, int rows, int columns, int modulus) {
+        List<Integer> entries = new ArrayList<>();
+        for (int place = 0; place < rows * columns; place++) {
+            int row = place / columns;
+            int column = place % columns;
+            int number = x.completed(k, row, column);
+            entries.add(number);
+            String entry = "completed(" + k + ", " + row + ", " + column + ") modulo " + modulus;
+            due("whether " + entry + " is a number of the grid", number > 0 && number < modulus ? 1 : 0, 1);
+            int told = x.entry(row, column, 0);
+            due(entry + " of a told entry", told == 0 ? 0 : number, told);
+            // It is enough to compare each entry with the first row and the first column, as no number is 0.
+            due(entry + " by the first one", number * entries.get(0) % modulus,
+                    entries.get(columns * row) * entries.get(column) % modulus);
+        }
+        return entries;
     }
 
     private static void completedRefuses() {

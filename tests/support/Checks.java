@@ -19,6 +19,10 @@ abstract class Checks {
     private static int answers = 0;
     private static int wrong = 0;
 
+    static void about(String text) {
+        subject = text;
+    }
+
     /** What is checked from here on is about this sentence of a promise. */
     static void about(int promise, String sentence) {
         subject = "promise " + promise + (sentence.isEmpty() ? "" : " (" + sentence + ")");

@@ -736,21 +736,21 @@ public final class OneRankGrid {
             }
             for (int row = 0; row < grid.rows(); row++) {
                 home = row;
-                walk(1, row, 1 << row);
+                walk(this, 1, row, 1 << row);
             }
         }
 
-        /** Goes on from a row; the depth is how many rows there are so far. */
-        private void walk(int depth, int row, int rowsSeen) {
-            if (depth >= turns) {
-                if (lead(depth, row, home)) {
-                    collect(rowsSeen);
+        /** Goes on from a row; the depth is how many rows there are so far. Static, as the language wants recursion to be. */
+        private static void walk(Rings rings, int depth, int row, int rowsSeen) {
+            if (depth >= rings.turns) {
+                if (rings.lead(depth, row, rings.home)) {
+                    rings.collect(rowsSeen);
                 }
                 return;
             }
-            for (int next = home + 1; next < grid.rows(); next++) {
-                if (!holds(rowsSeen, next) && lead(depth, row, next)) {
-                    walk(depth + 1, next, rowsSeen | 1 << next);
+            for (int next = rings.home + 1; next < rings.grid.rows(); next++) {
+                if (!holds(rowsSeen, next) && rings.lead(depth, row, next)) {
+                    walk(rings, depth + 1, next, rowsSeen | 1 << next);
                 }
             }
         }
